@@ -2,15 +2,21 @@
 final class Check {
     private static int calls = 0;
     private static int wrong = 0;
+    /** The sentence that is being tested; it stands ahead of what is wrong. */
+    private static String about = "";
 
     private Check() {
+    }
+
+    static void about(String sentence) {
+        about = sentence;
     }
 
     static void due(String call, long got, long want) {
         calls++;
         if (got != want) {
             wrong++;
-            System.out.println(call + " answered " + got + ", due is " + want);
+            System.out.println(about + call + " answered " + got + ", due is " + want);
         }
     }
 
