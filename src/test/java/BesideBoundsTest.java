@@ -16,6 +16,7 @@ public final class BesideBoundsTest {
         howlsOrMore();
         howlsOfMany();
         howlsPastAnInt();
+        howlsAsBits();
         goesYears();
         goesByAge();
         goesAtMost();
@@ -113,6 +114,18 @@ public final class BesideBoundsTest {
             howlsDue(six + "f0,0," + -way + ";", 0);
         }
         howlsDue("s1,99;".repeat(6) + PART + "f0,0,200;f5,1,200;", 0);
+    }
+
+    private static void howlsAsBits() {
+        Sentence.ofPromise(23, "HOWLS, as bits.");
+        Check.due("howls() of a new object", new HummingSet().howls(), 0);
+        for (int tones = 0; tones < 8; tones++) {
+            StringBuilder text = new StringBuilder("s10,99;" + PART);
+            for (int t = 0; t < 3; t++) {
+                text.append("f0,").append(t).append((tones >> t & 1) == 0 ? ",-100;" : ",100;");
+            }
+            howlsDue(text.toString(), tones);
+        }
     }
 
     /** Year by year, as the document says it. */

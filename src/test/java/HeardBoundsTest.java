@@ -138,6 +138,9 @@ public final class HeardBoundsTest {
         for (int s = 0; s < 3; s++) {
             Check.due("ask(0, 1, " + s + ", 0)", x.ask(0, 1, s, 0), heard[s]);
         }
+        HummingSet fine = Check.laid("s50,9;s50,9;p0,0,0,5,0;m0,0,20;e0,1;e1,1;e2,1;");
+        Check.due("ask(0, 1, 0, 0): nothing, not a little", fine.ask(0, 1, 0, 0), 0);
+        Check.due("ask(0, 1, 1, 0): nothing, not a little", fine.ask(0, 1, 1, 0), 0);
         HummingSet one = Check.laid(ONE + "h0,0,50;e1,0;");
         Check.due("of the only STAGE", one.ask(1, 1, 0, 0), 2);
         Check.due("it is in again then", one.hum(1, 0, 0), 50);

@@ -25,6 +25,7 @@ public final class OddsBoundsTest {
         likeliest();
         next();
         nextOfSeveral();
+        minutesOfKinds();
         nextMinutes();
         nextNone();
         quiet();
@@ -257,6 +258,17 @@ public final class OddsBoundsTest {
         nextDue("WEIGHTS ahead of RISK", Check.laid("s10,99;p0,2,0,5,0;p0,2,0,5,0;" + either + "v0,900,1;"), 0, 4, 0, 50);
     }
 
+    /** Two ASKS each time that leave as little and risk as little. */
+    private static void minutesOfKinds() {
+        Sentence.is(TERMS, "MINUTES of KINDS 0 to 4: 1, 3, 2, 4, 5.");
+        nextDue("LISTEN ahead of all", Check.laid("s10,99;s10,99;p1,2,0,5,0;h0,1,30;"), 0, 0, 0, 5);
+        // 30 or -50 is HEARD of none; OUT of 0 leaves 0 or -80, FINGER makes it 130 or 50
+        nextDue("FINGER ahead of OUT", Check.laid("s10,99;s10,99;p1,1,0,5,0;m0,0,30;h0,0,-50;h0,0,-30;e0,60;"), 0, 2, 0, 5);
+        // 0 at STAGE 0 and 1 at STAGE 1, each heard like both: OUT of 0 tells of 1, ACROSS each of the other
+        nextDue("OUT ahead of ACROSS", Check.laid("s10,99;s10,99;p0,0,0,5,0;p1,0,0,5,0;h0,0,30;h1,0,30;"), 0, 1, 0, 50);
+        nextDue("ACROSS ahead of MEASURE", Check.laid("s10,99;p0,0,0,5,0;p0,0,0,5,0;h0,0,30;h1,0,30;"), 0, 3, 0, 50);
+    }
+
     private static void nextMinutes() {
         Sentence.is(TERMS, "NEXT m minutes on");
         HummingSet x = Check.laid("s10,99;p0,0,0,5,0;p0,0,0,5,15;p0,0,0,5,30;h0,0,30;h1,1,30;h2,2,30;");
@@ -325,6 +337,10 @@ public final class OddsBoundsTest {
         HummingSet x = Check.laid(CLEAR);
         changeDue(x, 36, 0, 0);
         changeDue(x, 37, 1, 10);
+        // 15 and 15 are heard together alone: 990 of 999 are QUIET, 99.1 hundredths
+        HummingSet nearly = Check.laid("s10,99;p0,0,0,1,0;p0,0,0,1,0;p0,0,0,1,0;h0,0,15;h1,0,15;");
+        changeDue(nearly, 99, 0, 0);
+        changeDue(nearly, 100, 1, 10);
     }
 
     private static void changeOfSeveral() {

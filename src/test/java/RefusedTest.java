@@ -28,6 +28,7 @@ public final class RefusedTest {
             beside(now);
         }
         situations();
+        asking();
         bytes();
         full();
         none();
@@ -52,6 +53,46 @@ public final class RefusedTest {
         HummingSet y = new HummingSet();
         Situation.nonePossible(y);
         Check.due("possible(0) of none", y.possible(0), 0);
+    }
+
+    /** What is only asked changes nothing, either. */
+    private static void asking() {
+        for (Situation now : Situation.all()) {
+            Check.about(now.name + ": ");
+            HummingSet asked = new HummingSet();
+            now.ahead.accept(asked);
+            askAll(asked, now);
+            HummingSet other = new HummingSet();
+            now.ahead.accept(other);
+            Twins.same("asking", asked, other);
+        }
+    }
+
+    private static void askAll(HummingSet x, Situation now) {
+        int state = now.states() - 1;
+        x.fault();
+        x.part(0, 0);
+        x.hum(state, 2, 7);
+        x.in(state, now.stages - 1, 0, 7);
+        x.heard(state, 7, 0);
+        for (int kind = 0; kind <= 4; kind++) {
+            x.ask(state, kind, 0, 7);
+            x.risk(kind, 0);
+        }
+        x.volts(0, 7);
+        x.safe();
+        x.possible(0);
+        x.odds(0, 0);
+        x.likeliest();
+        x.next(7, 0);
+        x.change(7, 0);
+        x.oneByOne(0);
+        x.louder(state);
+        x.howls();
+        x.goes(0, 7);
+        x.nextToGo(7);
+        x.set(7);
+        x.count(0);
     }
 
     // ---- each number of each call
@@ -178,6 +219,11 @@ public final class RefusedTest {
 
     private static void full() {
         Situation most = Situation.all()[1];
+        Sentence.is("Terms", "FULL. Of several the first; nothing changes then.");
+        for (int n : new int[] {0, 9}) {
+            refused(most, "write(" + n + ", 0): BAD ahead of FULL", x -> x.write(n, 0), BAD);
+        }
+        refused(most, "answer(0, 0, 0, 10): BAD ahead of FULL", x -> x.answer(0, 0, 0, 10), BAD);
         Sentence.ofPromise(2, "FULL.");
         refused(most, "write(1, 0)", x -> x.write(1, 0), FULL);
         refused(most, "write(8, -1)", x -> x.write(8, -1), FULL);
@@ -193,6 +239,8 @@ public final class RefusedTest {
 
     private static void none() {
         Situation none = Situation.all()[2];
+        Sentence.is("Terms", "NONE: there is none.");
+        refused(none, "fault()", HummingSet::fault, NONE);
         Sentence.ofPromise(17, "NONE; BAD.");
         for (int p = 0; p < none.parts; p++) {
             int of = p;
@@ -221,6 +269,8 @@ public final class RefusedTest {
     }
 
     private static void no() {
+        Sentence.is("Terms", "NO: not as things stand.");
+        refused(Situation.all()[1], "lay() with a FAULT", HummingSet::lay, NO);
         Sentence.ofPromise(28, "As KEPT last: how many are left. NO.");
         refused(Situation.all()[0], "back()", HummingSet::back, NO);
         refused(Situation.all()[2], "back()", HummingSet::back, NO);

@@ -39,6 +39,7 @@ public final class TextBoundsTest {
         wipe();
         faultCall();
         layCall();
+        layAnew();
         layNo();
         partCall();
         Check.end();
@@ -337,7 +338,7 @@ public final class TextBoundsTest {
     }
 
     private static void yearly() {
-        Sentence.is(ABOUT, "Q go a year for each ten years of age (0 to 50; 5 without; the last one)");
+        Sentence.is(ABOUT, "kK,Q of a thousand PARTS of KIND K Q go a year for each ten years of age (0 to 50; 5 without; the last one)");
         edges("", "k", ",1", 0, 4);
         edges("", "k0,", "", 0, 50);
         for (int kind = 0; kind <= 4; kind++) {
@@ -558,6 +559,33 @@ public final class TextBoundsTest {
         HummingSet before = Check.laid(longest());
         before.lay();
         Twins.same("a second lay()", before, Check.laid(longest()));
+    }
+
+    /** Nothing is left of what was told before, in a TEXT with a FAULT, too. */
+    private static void layAnew() {
+        Sentence.ofPromise(5, "LAID: how many PARTS; nothing is ANSWERED, KEPT.");
+        String loud = "s50,1;".repeat(6) + "p5,4,99,9,0;".repeat(8) + "h0,0,50;h0,1,50;h0,2,50;h1,0,50;h2,1,50;"
+                + "m0,0,50;m0,1,50;m0,2,50;m1,0,50;m2,1,50;m2,2,50;" + "f5,0,200;".repeat(6)
+                + "c0,99;c1,99;c2,99;e2,0;k0,50;k4,50;v0,900,1;v1,900,1;v2,900,1;";
+        for (String few : new String[] {ONE, "s10,99;s10,99;s10,99;p2,4,40,5,0;p1,0,9,5,0;p0,0,9,5,0;m0,0,30;",
+            ONE + "h0,0,1;".repeat(16) + "m0,0,1;".repeat(6) + "f0,0,1;".repeat(6)}) {
+            HummingSet x = new HummingSet();
+            for (int i = 0; i < 2; i++) {
+                x.wipe();
+                Check.write(x, loud);
+                Check.due("lay() of much", x.lay(), 8);
+                Check.due("its first PART", x.oneByOne(1), 0);
+                Check.due("its HOWLS", x.howls(), 1);
+                x.answer(0, 0, 0, 9);
+                x.keep();
+            }
+            Check.write(x, "x");
+            Check.due("fault() behind much", x.fault(), loud.length());
+            x.wipe();
+            Check.write(x, few);
+            Check.holds("lay() of few", x.lay() > 0);
+            Twins.same("few behind much: " + few, x, Check.laid(few));
+        }
     }
 
     private static void layNo() {
