@@ -107,10 +107,11 @@ public final class HeardBoundsTest {
     }
 
     private static void handedOnToTheFirst() {
-        Sentence.is(TERMS, "what the one behind handed on (0 at STAGE 0)");
+        Sentence.is(TERMS, "what the one behind handed on (0 at STAGE 0), what comes in there in any case");
         HummingSet x = Check.laid("s10,99;s10,99;p1,0,0,5,0;h0,0,50;");
         Check.due("in(1, 0, 0, 0)", x.in(1, 0, 0, 0), 0);
         Check.due("in(1, 1, 0, 0)", x.in(1, 1, 0, 0), 50);
+        Check.due("in(0, 1, 0, 0): in no trouble", x.in(0, 1, 0, 0), 0);
         HummingSet six = Check.laid("s20,9;".repeat(6) + "p0,0,0,5,0;m0,0,1;m5,0,50;");
         for (int s = 0; s < 6; s++) {
             Check.due("in(0, " + s + ", 0, 0)", six.in(0, s, 0, 0), (1 << s) + (s == 5 ? 50 : 0));

@@ -35,6 +35,7 @@ public final class OddsBoundsTest {
         changeNone();
         oneByOne();
         oneByOneEnds();
+        oneByOneLeast();
         oneByOneFirst();
         oneByOneNone();
         heaviestOfAll();
@@ -408,8 +409,24 @@ public final class OddsBoundsTest {
         rowDue(not, 0, NONE);
     }
 
+    private static void oneByOneLeast() {
+        Sentence.is(TERMS, "(a STATE that is QUIET and with more CHANGED is not, counts again): the least such sum");
+        // WEIGHTS 40, 40, 10, 10, 60 not QUIET; with 0 CHANGED 20, with 1 CHANGED 50
+        String two = "s10,99;p0,0,0,5,0;p0,0,0,2,0;h0,0,30;h1,1,30;";
+        rowDue(Check.laid(two + "c0,6;c1,1;"), 60 + 6 * 50, 1);
+        rowDue(Check.laid(two + "c0,3;c1,1;"), 3 * 60 + 20, 0);
+        // as dear either way: 4 times 60 and 20, 60 and 4 times 50
+        rowDue(Check.laid(two + "c0,4;c1,1;"), 260, 0);
+        // 0 and 1 put each other out; with 1 CHANGED what was QUIET is heard, and counts again
+        String each = "s10,99;p0,0,0,5,0;p0,0,0,2,0;h0,0,30;h1,0,-30;";
+        // 1 and 2 are heard: 40 and 10; with 0 CHANGED 2 and 3: 20; with 1 CHANGED 1 and 3: 50
+        rowDue(Check.laid(each + "c0,6;c1,1;"), 6 * 50 + 20, 0);
+        rowDue(Check.laid(each + "c0,1;c1,6;"), 50 + 6 * 20, 0);
+    }
+
     private static void oneByOneFirst() {
-        Sentence.is(TERMS, "the PART that is first in the rows of it (of several the lowest; none: all POSSIBLE STATES are QUIET, or none is POSSIBLE)");
+        Sentence.is(TERMS, "the PART that is first in the rows of it (of several the lowest; "
+                + "none: all POSSIBLE STATES are QUIET, or none is POSSIBLE)");
         rowDue(Check.laid(SAME), 1250, 0);
         rowDue(Check.laid(SAME + "c1,9;"), 9 * 75 + 10 * 50, 1);
         rowDue(Check.laid(SAME + "c0,9;"), 9 * 75 + 10 * 50, 0);

@@ -3,8 +3,9 @@ import java.util.regex.Pattern;
 
 /** Each place of the document that names an edge is in a sentence that some test of edges names. */
 public final class SentencesTest {
-    private static final Pattern EDGE = Pattern.compile("-?\\d+ to -?\\d+|\\d+ at (?:most|least)|two PARTS at most|or more|or less"
-            + "|above|below|\\b[Nn]one\\b|NONE|BAD|FULL|\\bNO\\b|told ahead|the last one|without|the lowest|the first|cut|empty|at least");
+    private static final Pattern EDGE = Pattern.compile("-?\\d+ to -?\\d+|at most|at least|or more|or less|above|below"
+            + "|\\b[Nn]one\\b|NONE|BAD|FULL|\\bNO\\b|told ahead|the last one|without|the lowest|the first|cut|empty"
+            + "|[Oo]f several|least|fewest|greatest|of most|positive|alone|any case|how many were|how long");
     private static final Pattern LETTER = Pattern.compile("\\b(?:sG|pS|hP|mS|cP|fS|eT|kK|vP),");
     private static final int PROMISES = 29;
 
