@@ -33,6 +33,7 @@ public final class TextBoundsTest {
         placeOfTheFault();
         laid();
         newObject();
+        manyCalls();
         writeOfHowMany();
         writeHighestFirst();
         writeFull();
@@ -438,6 +439,28 @@ public final class TextBoundsTest {
         Check.write(one, "s20,9;p0,0,0,5,0;p0,0,0,5,0;");
         one.lay();
         Twins.same("objects share nothing", other, new HummingSet());
+    }
+
+    private static void manyCalls() {
+        Sentence.is(ABOUT, "An object is used for at most 512 calls after it has been made");
+        HummingSet x = new HummingSet();
+        int calls = 0;
+        while (calls < 400) {
+            calls++;
+            Check.due("call " + calls + ", write(1, 's')", x.write(1, 's'), calls);
+        }
+        while (calls < 511) {
+            calls++;
+            Check.due("call " + calls + ", write(1, 's')", x.write(1, 's'), FULL);
+        }
+        Check.due("call 512, wipe()", x.wipe(), 400);
+        HummingSet laid = new HummingSet();
+        Check.write(laid, ONE);
+        for (calls = 3; calls < 511; calls += 2) {
+            Check.due("lay()", laid.lay(), 1);
+            Check.due("keep()", laid.keep(), 1);
+        }
+        Check.due("call 512, possible(1)", laid.possible(1), 10);
     }
 
     // ---- promises 2 to 6
