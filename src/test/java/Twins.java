@@ -8,8 +8,8 @@ import java.util.function.ToLongFunction;
  * same calls behind them one gets the refused call, too; then both show all.
  */
 final class Twins {
-    /** An object is used for 512 calls at most; what leads up to it takes fewer than 100. */
-    private static final int SHOWN_MOST = 400;
+    /** An object is used for 512 calls at most; what leads up to it, and what is not shown, takes fewer than 160. */
+    private static final int SHOWN_MOST = 350;
 
     private final HummingSet set;
     private final List<Long> shown = new ArrayList<>();
