@@ -22,6 +22,7 @@ public final class OddsBoundsTest {
         allAnswered();
         odds();
         oddsNone();
+        leastWeight();
         likeliest();
         next();
         nextOfSeveral();
@@ -201,6 +202,26 @@ public final class OddsBoundsTest {
         }
         x.forget();
         oddsDue(x, 0, 49, 99);
+    }
+
+    /** C of 9, in no trouble, and C of 1, in trouble: a WEIGHT of 1 is above 0. */
+    private static void leastWeight() {
+        Sentence.is(TERMS, "whose WEIGHT is above 0");
+        HummingSet x = Check.laid("s10,99;p0,0,0,9,0;p0,0,0,1,0;h0,0,30;h1,1,30;");
+        x.answer(0, 0, 0, 2);
+        Check.due("possible(0)", x.possible(0), 1);
+        Check.due("possible(1)", x.possible(1), 1);
+        Check.due("likeliest()", x.likeliest(), 2);
+        oddsDue(x, 0, 0, 1);
+        oddsDue(x, 1, 1, 1);
+        nextDue("of WEIGHT 1", x, 0, 0, 0, 1);
+        changeDue(x, 100, 2, 10);
+        rowDue(x, 10, 1);
+        HummingSet all = Check.laid("s10,99;" + "p0,0,0,9,0;".repeat(8) + "h0,0,30;h1,0,30;h2,0,30;h3,0,30;"
+                + "h4,0,30;h5,0,30;h6,0,30;h7,0,30;");
+        all.answer(0, 0, 0, 0);
+        Check.due("possible(1) of eight", all.possible(1), 1);
+        Check.due("likeliest() of eight", all.likeliest(), 0);
     }
 
     private static void likeliest() {
