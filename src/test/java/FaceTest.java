@@ -31,6 +31,7 @@ public final class FaceTest {
         classesInside();
         String code = codeOf(Path.of("src/main/java/HummingSet.java"));
         words(code);
+        rowsMadeOnce(code);
         shortMethods(code);
         Check.end();
     }
@@ -106,10 +107,22 @@ public final class FaceTest {
         while (used.find()) {
             Check.holds(used.group(), List.of("max", "min", "abs", "bitCount").contains(used.group(2)));
         }
-        Matcher made = Pattern.compile("\\bnew (\\w+)").matcher(code);
+    }
+
+    /** No call makes an object: what is made is made with a field, or in a constructor's loop. */
+    private static void rowsMadeOnce(String code) {
+        Pattern field = Pattern.compile(" +private (static )?(final )?[\\w\\[\\]]+ \\w+ = new .*;");
+        String inside = "";
         int rows = 0;
-        while (made.find()) {
-            rows++;
+        for (String line : code.split("\n")) {
+            if (line.matches(" {4,8}(public|private) .*\\{")) {
+                inside = line;
+            }
+            if (line.matches(".*\\bnew\\b.*")) {
+                rows++;
+                boolean constructor = inside.matches(" +(public|private) \\w+\\(.*");
+                Check.holds(line.trim() + " is made with a field or in a constructor", field.matcher(line).matches() || constructor);
+            }
         }
         Check.holds("rows are made, " + rows + " times in the text", rows > 0);
     }
